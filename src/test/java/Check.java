@@ -15,6 +15,12 @@ final class Check {
         }
     }
 
+    static void same(String what, String due, String got) {
+        if (!due.equals(got)) {
+            tell(what + " shows\n  " + got + "\n  due is\n  " + due);
+        }
+    }
+
     static void yes(String what, boolean got) {
         if (!got) {
             tell(what + " is false, due is true");
@@ -37,6 +43,10 @@ final class Check {
 
     static void throwsState(String what, Call call) {
         throwsOnly(what, IllegalStateException.class, call);
+    }
+
+    static void throwsNothing(String what, Call call) {
+        throwsOnly(what, null, call);
     }
 
     private static void throwsOnly(String what, Class<?> due, Call call) {

@@ -2,8 +2,11 @@ import java.util.Random;
 
 /** All promises together: long runs of mixed calls, each answer against the plain model. */
 public final class ModelTest {
-    private static final int RUNS = 400;
-    private static final int CALLS = 512;
+    private static final int RUNS = 1000;
+    /** Nothing is promised of an object behind so many calls. */
+    private static final int MOST_CALLS = 512;
+    /** So many are made before the object is asked for all that it shows. */
+    private static final int MIXED_CALLS = 335;
     private static final long THREW_INDEX = -1001;
     private static final long THREW_ARGUMENT = -1002;
     private static final long THREW_STATE = -1003;
@@ -20,6 +23,7 @@ public final class ModelTest {
     private final int netsAimedAt;
     private final int timeScale;
     private final boolean clears;
+    private int calls = 0;
 
     private ModelTest(int seed) {
         this.seed = seed;
@@ -51,6 +55,10 @@ public final class ModelTest {
     }
 
     private void both(String call, Answer due, Answer got) {
+        if (calls == MOST_CALLS) {
+            return;
+        }
+        calls++;
         Check.same("seed " + seed + ": " + call, answer(due), answer(got));
     }
 
@@ -80,19 +88,23 @@ public final class ModelTest {
     }
 
     private void makeCalls() {
-        for (int i = 0; i < CALLS; i++) {
+        while (calls < MIXED_CALLS) {
             if (model.count(0) < netsAimedAt && random.nextInt(3) > 0) {
                 callNet();
             } else if (clears && random.nextInt(200) == 0) {
-                model.clear();
-                x.clear();
-            } else if (random.nextInt(3) > 0) {
+                both("clear", () -> cleared(model::clear), () -> cleared(x::clear));
+            } else if (random.nextInt(4) > 0) {
                 callThatBuilds();
             } else {
                 callThatAsks();
             }
         }
         askAll();
+    }
+
+    private static long cleared(Runnable clear) {
+        clear.run();
+        return 0;
     }
 
     private void callNet() {
@@ -143,31 +155,51 @@ public final class ModelTest {
     private void callThatAsks() {
         int net = anyNet();
         int k = near(0, 9);
-        both("early", () -> model.early(net), () -> x.early(net));
-        both("late", () -> model.late(net), () -> x.late(net));
-        both("added", () -> model.added(net), () -> x.added(net));
-        both("changed", () -> model.changed(k), () -> x.changed(k));
-        both("source", () -> model.source(net, k), () -> x.source(net, k));
-        both("height", () -> model.height(net), () -> x.height(net));
-        both("noise", () -> model.noise(net), () -> x.noise(net));
-        both("count", () -> model.count(k - 2), () -> x.count(k - 2));
+        switch (random.nextInt(8)) {
+            case 0:
+                both("early", () -> model.early(net), () -> x.early(net));
+                break;
+            case 1:
+                both("late", () -> model.late(net), () -> x.late(net));
+                break;
+            case 2:
+                both("added", () -> model.added(net), () -> x.added(net));
+                break;
+            case 3:
+                both("changed", () -> model.changed(k), () -> x.changed(k));
+                break;
+            case 4:
+                both("source", () -> model.source(net, k), () -> x.source(net, k));
+                break;
+            case 5:
+                both("height", () -> model.height(net), () -> x.height(net));
+                break;
+            case 6:
+                both("noise", () -> model.noise(net), () -> x.noise(net));
+                break;
+            default:
+                both("count", () -> model.count(k - 2), () -> x.count(k - 2));
+                break;
+        }
     }
 
+    /** The most telling questions first: of many nets, the last ones find no call left. */
     private void askAll() {
-        for (int widest = 0; widest < 2; widest++) {
-            boolean from = widest == 1;
-            both("run", () -> model.run(50, from), () -> x.run(50, from));
-            for (int i = -1; i <= 40; i++) {
-                int net = i;
-                both("early", () -> model.early(net), () -> x.early(net));
-                both("late", () -> model.late(net), () -> x.late(net));
-                both("added", () -> model.added(net), () -> x.added(net));
-                both("changed", () -> model.changed(net), () -> x.changed(net));
-                both("height", () -> model.height(net), () -> x.height(net));
-                both("noise", () -> model.noise(net), () -> x.noise(net));
-                both("source", () -> model.source(0, net), () -> x.source(0, net));
-                both("count", () -> model.count(net), () -> x.count(net));
-            }
+        boolean widest = seed % 2 == 0;
+        both("run", () -> model.run(50, widest), () -> x.run(50, widest));
+        for (int i = 0; i < model.count(0); i++) {
+            int net = i;
+            both("late", () -> model.late(net), () -> x.late(net));
+            both("added", () -> model.added(net), () -> x.added(net));
+            both("noise", () -> model.noise(net), () -> x.noise(net));
+            both("early", () -> model.early(net), () -> x.early(net));
+        }
+        for (int i = 0; i < 40; i++) {
+            int place = i;
+            both("changed", () -> model.changed(place), () -> x.changed(place));
+            both("source", () -> model.source(place / 8, place % 8), () -> x.source(place / 8, place % 8));
+            both("height", () -> model.height(place), () -> x.height(place));
+            both("count", () -> model.count(place % 5), () -> x.count(place % 5));
         }
     }
 }
