@@ -461,13 +461,18 @@ public final class EdgesTest {
         for (int place : orderOfStages) {
             x.stage(way[place], way[place + 1], 100);
         }
-        x.row(0, 1);
-        x.row(1, 2);
-        x.row(2, 3);
-        x.run(1, false);
+        x.couple(way[0], way[3], 5);
+        x.row(5, 6);
+        x.row(6, 7);
+        x.row(7, 8);
+        // the end first: no question before it has worked out what it needs
+        Check.same("noise at the end", 13, x.noise(way[3]));
+        Check.same("noise on the way", 7, x.noise(way[2]));
+        Check.same("noise on the way", 6, x.noise(way[1]));
+        Check.same("noise at the beginning", 5, x.noise(way[0]));
+        Check.same("rounds", 1, x.run(1, false));
         for (int place = 0; place < 4; place++) {
             span("on a way", x, way[place], 100 * place, 100 * place + 10);
-            Check.same("noise on a way", place, x.noise(way[place]));
         }
     }
 
